@@ -745,8 +745,10 @@ public final class JokePump {
 
         /** Takes a number out; the later ones move up. */
         void takeOut(int index) {
-            if (index >= 0 && index < cells.length) {
-                System.arraycopy(cells, index + 1, cells, index, cells.length - 1 - index);
+            if (index >= 0) {
+                for (int i = index; i < cells.length - 1; i++) {
+                    cells[i] = cells[i + 1];
+                }
             }
         }
 
