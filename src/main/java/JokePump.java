@@ -114,7 +114,13 @@ public final class JokePump {
     }
 
     public int read() {
-        int answer = readInput();
+        int answer = BAD;
+        if (reader.isText(input)) {
+            history.prepare(now);
+            answer = keepChange(doCommands());
+        } else {
+            faultPosition = reader.end;
+        }
         input.clear();
         return answer;
     }
@@ -555,23 +561,12 @@ public final class JokePump {
 
     // ---- Texts ----
 
-    private int readInput() {
-        if (!reader.isText(input)) {
-            faultPosition = reader.end;
-            return BAD;
-        }
-        history.prepare(now);
-        int answer = doCommands();
-        if (answer < 0) {
-            history.dismiss(now);
-        }
-        return keepChange(answer);
-    }
-
+    /** Does all commands, or, if one is refused, none: what those ahead of it did is taken back. */
     private int doCommands() {
         for (int command = 0; command < reader.count; command++) {
             int answer = doCommand(command);
             if (answer < 0) {
+                history.dismiss(now);
                 return refuseCommand(command, answer == REFUSED);
             }
         }

@@ -1,11 +1,12 @@
 /** Counts the answers of a test, and prints those that are not the ones that are due. */
 final class Due {
-    private final String test;
+    private String sentence = "";
     private int right = 0;
     private int wrong = 0;
 
-    Due(String test) {
-        this.test = test;
+    /** Names the sentence of the document that the next answers are asked for. */
+    void says(String words) {
+        sentence = words;
     }
 
     void is(String what, long got, long want) {
@@ -29,7 +30,7 @@ final class Due {
     }
 
     /** Ends the program, with 1 if an answer was wrong. */
-    void finish() {
+    void finish(String test) {
         System.out.println(test + ": " + right + " answers as due, " + wrong + " not");
         System.exit(wrong == 0 && right > 0 ? 0 : 1);
     }
@@ -37,9 +38,10 @@ final class Due {
     private void tell(String what, boolean isRight, Object got, Object want) {
         if (isRight) {
             right++;
-        } else {
-            wrong++;
-            System.out.println(what + " answered " + got + ", due is " + want);
+            return;
         }
+        wrong++;
+        System.out.println(what + " answered " + got + ", due is " + want
+            + (sentence.isEmpty() ? "" : " -- " + sentence));
     }
 }

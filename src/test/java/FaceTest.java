@@ -14,7 +14,7 @@ import java.util.regex.Pattern;
 
 /** The public face, and the rules of LANGUAGE.md that can be seen in the file and in the class. */
 public final class FaceTest {
-    private static final Due DUE = new Due("FaceTest");
+    private static final Due DUE = new Due();
     private static final String FACE = """
         int account(int)
         int append(char)
@@ -71,7 +71,7 @@ public final class FaceTest {
         }
         DUE.is("some twelve classes", JokePump.class.getDeclaredClasses().length <= 11, true);
         source(Files.readString(Path.of("src/main/java/JokePump.java"), StandardCharsets.ISO_8859_1));
-        DUE.finish();
+        DUE.finish("FaceTest");
     }
 
     private static String told(Method method) {

@@ -2,6 +2,11 @@
 public final class ModelRunsTest {
     private static final int RUNS = 3000;
     private static final int CALLS = 512;
+    // The most calls that each of these makes.
+    private static final int TEXT_CALLS = 75;
+    private static final int LINE_CALLS = 50;
+    private static final int NUMBERS_CALLS = 23;
+    private static final int QUESTION_CALLS = 8;
     private static final int[] EDGES = {Integer.MIN_VALUE, -7, -1, 64, 100, Integer.MAX_VALUE};
     private static final String[] WORDS =
         {"joke ", "prime ", "drop ", "drain ", "stroke ", "bucket ", "go ", "pump "};
@@ -19,11 +24,11 @@ public final class ModelRunsTest {
     }
 
     public static void main(String[] args) {
-        Due due = new Due("ModelRunsTest");
+        Due due = new Due();
         for (int run = 0; run < RUNS && due.isAllRight(); run++) {
             new ModelRunsTest(due, run).go();
         }
-        due.finish();
+        due.finish("ModelRunsTest");
     }
 
     private int next(int bound) {
@@ -43,19 +48,20 @@ public final class ModelRunsTest {
         int budget = CALLS;
         while (budget > 0 && due.isAllRight()) {
             int kind = next(100);
-            if (kind < 50) {
-                change();
-                budget--;
-            } else if (kind < 54) {
+            if (kind < 54 && kind >= 50 && budget > TEXT_CALLS) {
                 budget -= text();
-            } else if (kind < 60) {
+            } else if (kind < 60 && kind >= 54) {
                 back();
                 budget--;
-            } else {
+            } else if (kind >= 97 && budget > LINE_CALLS) {
+                budget -= writing();
+            } else if (kind >= 92 && budget > NUMBERS_CALLS) {
+                budget -= numbers();
+            } else if (kind >= 60 && budget > QUESTION_CALLS) {
                 budget -= question();
-            }
-            if (next(40) == 0) {
-                budget -= everything();
+            } else {
+                change();
+                budget--;
             }
         }
     }
@@ -214,7 +220,7 @@ public final class ModelRunsTest {
         }
     }
 
-    private int everything() {
+    private int numbers() {
         for (int what = -1; what <= 14; what++) {
             due.is(at("account " + what), pump.account(what), model.account(what));
         }
@@ -224,16 +230,19 @@ public final class ModelRunsTest {
         due.is(at("meanDepth"), pump.meanDepth(), model.meanDepth());
         due.is(at("knownShare"), pump.knownShare(), model.knownShare());
         due.is(at("isCounted"), pump.isCounted(), true);
-        int lines = 0;
-        for (int well = -1; well <= 4; well++) {
-            due.is(at("write " + well), pump.write(well), model.write(well));
-            lines += line();
-        }
-        due.is(at("writePump"), pump.writePump(), model.writePump());
-        lines += line();
         int sign = number(0, 63);
         due.is(at("isKnown " + sign), pump.isKnown(sign), model.isKnown(sign));
-        return lines + 30;
+        return NUMBERS_CALLS;
+    }
+
+    private int writing() {
+        int well = number(0, 4);
+        if (well == 4) {
+            due.is(at("writePump"), pump.writePump(), model.writePump());
+        } else {
+            due.is(at("write " + well), pump.write(well), model.write(well));
+        }
+        return 1 + line();
     }
 
     private int line() {

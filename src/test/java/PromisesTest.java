@@ -1,16 +1,5 @@
 /** Each promise of the document by itself: ordinary inputs, edges and wrong inputs. */
-public final class PromisesTest {
-    private static final int NONE = -1;
-    private static final int BAD = -2;
-    private static final int STATE = -3;
-    private static final int FULL = -4;
-    private static final int REFUSED = -5;
-    private static final int NOTHING = -6;
-    private static final int LEAST = Integer.MIN_VALUE;
-    private static final int GREATEST = Integer.MAX_VALUE;
-
-    private static final Due DUE = new Due("PromisesTest");
-
+public final class PromisesTest extends PumpCheck {
     public static void main(String[] args) {
         newObject();
         joke();
@@ -51,85 +40,10 @@ public final class PromisesTest {
         undoAll();
         saveAndRestore();
         laterCalls();
-        DUE.finish();
+        DUE.finish("PromisesTest");
     }
 
     // ---- Helpers ----
-
-    private static void is(String what, long got, long want) {
-        DUE.is(what, got, want);
-    }
-
-    private static void isRefused(String what, JokePump pump, int answer, int kind, int detail) {
-        DUE.is(what, answer, REFUSED);
-        DUE.is(what + ", reason", pump.reason(0, false), kind);
-        DUE.is(what + ", detail", pump.reason(0, true), detail);
-        DUE.is(what + ", behind", pump.reason(1, false), NOTHING);
-        DUE.is(what + ", behind in detail", pump.reason(1, true), NOTHING);
-    }
-
-    private static int give(JokePump pump, String text) {
-        for (int i = 0; i < text.length(); i++) {
-            DUE.is("append to " + text, pump.append(text.charAt(i)), i + 1);
-        }
-        return pump.read();
-    }
-
-    private static void isFault(String text, int position) {
-        JokePump pump = new JokePump();
-        DUE.is("read " + text, give(pump, text), BAD);
-        DUE.is("fault of " + text, pump.fault(), position);
-        DUE.is("input behind " + text, pump.account(12), 0);
-        DUE.is("changes behind " + text, pump.account(13), 0);
-        DUE.is("reason behind " + text, pump.reason(0, false), STATE);
-    }
-
-    private static void isTextRefused(JokePump pump, String text, int command, int kind, int detail) {
-        String ahead = everything(pump);
-        int changes = pump.account(13);
-        DUE.is("read " + text, give(pump, text), REFUSED);
-        DUE.is(text + ", changes", pump.account(13), changes);
-        DUE.is(text + ", input", pump.account(12), 0);
-        DUE.is(text + ", reason", pump.reason(0, false), 9);
-        DUE.is(text + ", command", pump.reason(0, true), command);
-        DUE.is(text + ", behind", pump.reason(1, false), kind);
-        DUE.is(text + ", behind in detail", pump.reason(1, true), detail);
-        DUE.is(text + " changes nothing", everything(pump), ahead);
-    }
-
-    private static String line(JokePump pump, int length) {
-        StringBuilder line = new StringBuilder();
-        for (int i = 0; i < length; i++) {
-            line.append((char) pump.written(i));
-        }
-        DUE.is("behind the line", pump.written(length), NONE);
-        return line.toString();
-    }
-
-    /** Everything that can be undone, as a text. */
-    private static String everything(JokePump pump) {
-        StringBuilder all = new StringBuilder();
-        for (int well = 0; well < 4; well++) {
-            all.append(line(pump, pump.write(well))).append('/').append(pump.wellOf(well, 3)).append(' ');
-        }
-        for (int what = 0; what <= 11; what++) {
-            all.append(pump.account(what)).append(',');
-        }
-        for (int joke = 0; joke < pump.account(0); joke++) {
-            for (int what = 0; what <= 5; what++) {
-                all.append(pump.jokeOf(joke, what)).append('.');
-            }
-        }
-        for (int place = 0; place < pump.account(6); place++) {
-            for (int what = 0; what <= 2; what++) {
-                all.append(pump.liftedOf(place, what)).append('.');
-            }
-        }
-        for (int sign = 0; sign < 64; sign++) {
-            all.append(pump.isKnown(sign));
-        }
-        return all.append(pump.laughs()).append(pump.laughsAgain()).toString();
-    }
 
     /** The jokes 0 to 11, all wells 3 each, with the signs 0 to 11. */
     private static JokePump fullPump() {
@@ -475,23 +389,23 @@ public final class PromisesTest {
     // ---- Promises 13 to 17 ----
 
     private static void laughBits() {
-        JokePump pump = new JokePump();
         for (int wit = 1; wit <= 9; wit++) {
-            is("joke", pump.joke(wit % 4, wit, wit, wit), wit - 1);
+            JokePump pump = made("joke 0 1 0 " + (10 - wit) + ";joke 1 1 1 " + wit);
+            isLaughs(pump, (float) wit);
+            does(pump, "prime 1");
+            isLaughs(pump, (float) wit * 1.5f);
+            is("groans -1", pump.laughBits(1, -1), BAD);
+            is("groans 51", pump.laughBits(1, 51), BAD);
+            is("no joke -1", pump.laughBits(-1, 0), NONE);
+            is("no joke ahead of groans", pump.laughBits(2, 51), NONE);
         }
-        for (int round = 0; round < 2; round++) {
-            for (int joke = 0; joke < 9; joke++) {
-                for (int groans = 0; groans <= 50; groans++) {
-                    float laugh = (float) (joke + 1) * (round == 0 ? 1f : 1.5f) / (1f + (float) groans / 16f);
-                    is("bits of " + laugh, pump.laughBits(joke, groans), Float.floatToIntBits(laugh));
-                }
-                is("groans -1", pump.laughBits(joke, -1), BAD);
-                is("groans 51", pump.laughBits(joke, 51), BAD);
-                pump.prime(joke);
-            }
+    }
+
+    private static void isLaughs(JokePump pump, float laugh) {
+        for (int groans = 0; groans <= 50; groans++) {
+            float due = laugh / (1f + (float) groans / 16f);
+            is("bits of " + due, pump.laughBits(1, groans), Float.floatToIntBits(due));
         }
-        is("no joke -1", pump.laughBits(-1, 0), NONE);
-        is("no joke ahead of groans", pump.laughBits(9, 51), NONE);
     }
 
     private static void laughs() {
@@ -542,8 +456,8 @@ public final class PromisesTest {
     // ---- Promises 18 to 22 ----
 
     private static void strokes() {
-        JokePump pump = new JokePump();
         for (int length = 1; length <= 10; length++) {
+            JokePump pump = new JokePump();
             pump.stroke(length);
             for (int depth = 1; depth <= 30; depth++) {
                 int count = (int) Math.ceil(depth / (double) length);
@@ -551,8 +465,7 @@ public final class PromisesTest {
                 is("strokesAgain", pump.strokesAgain(depth), count);
             }
         }
-        pump.stroke(7);
-        pump.pump(2);
+        JokePump pump = made("stroke 7;pump 2");
         int[][] due = {{1, 0}, {14, 0}, {15, 1}, {21, 1}, {22, 2}, {28, 2}, {29, 3}, {30, 3}};
         for (int[] pair : due) {
             is("strokes from 14 to " + pair[0], pump.strokes(pair[0]), pair[1]);
@@ -849,42 +762,35 @@ public final class PromisesTest {
     }
 
     private static void readRefused() {
-        JokePump pump = new JokePump();
-        give(pump, "joke 1 3 5 9;joke 0 8 6 9;go 1;pump 2;go 0");
+        String ahead = "joke 1 3 5 9;joke 0 8 6 9;go 1;pump 2;go 0";
         String[] outOfRange = {"joke 4 1 1 1", "joke 0 0 1 1", "joke 0 31 1 1", "joke 0 1 64 1", "joke 0 1 1 0",
             "prime 1", "prime 99", "drop 1", "drain 0", "drain 51", "stroke 0", "stroke 11", "bucket 4 1",
             "bucket 0 0", "bucket 0 6", "go 4", "pump 0"};
         for (String command : outOfRange) {
-            isTextRefused(pump, command, 0, NOTHING, NOTHING);
-            isTextRefused(pump, "stroke 9;bucket 3 5;" + command + ";go 9", 2, NOTHING, NOTHING);
+            isTextRefused(ahead, command, 0, NOTHING, NOTHING);
+            isTextRefused(ahead, "stroke 9;bucket 3 5;" + command + ";go 9", 2, NOTHING, NOTHING);
         }
-        pump = new JokePump();
-        give(pump, "joke 1 3 5 9;joke 0 8 6 9;go 1;pump 2;go 0");
-        isTextRefused(pump, "joke 2 1 5 1", 0, 3, 5);
-        isTextRefused(pump, "go 1;joke 0 8 6 1", 1, 4, 0);
-        isTextRefused(pump, "joke 3 8 1 1;joke 3 8 2 1", 1, 2, 1);
-        isTextRefused(pump, "prime 0;drop 0;joke 0 8 6 1;prime 0;prime 0", 4, 5, 0);
-        isTextRefused(pump, "stroke 4;stroke 4", 1, 5, 4);
-        isTextRefused(pump, "bucket 2 3;bucket 2 3", 1, 5, 2);
-        isTextRefused(pump, "go 3;go 3", 1, 5, 3);
-        isTextRefused(pump, "drain 3", 0, 7, 2);
-        isTextRefused(pump, "stroke 10;pump 9;pump 9;pump 9", 3, 8, 43);
-        give(pump, "joke 2 1 11 1;joke 2 2 12 1;joke 2 3 13 1");
-        give(pump, "joke 2 4 14 1;joke 2 5 15 1;joke 2 6 16 1");
-        isTextRefused(pump, "drop 0;joke 2 7 17 1", 1, 1, 6);
+        isTextRefused(ahead, "joke 2 1 5 1", 0, 3, 5);
+        isTextRefused(ahead, "go 1;joke 0 8 6 1", 1, 4, 0);
+        isTextRefused(ahead, "joke 3 8 1 1;joke 3 8 2 1", 1, 2, 1);
+        isTextRefused(ahead, "prime 0;drop 0;joke 0 8 6 1;prime 0;prime 0", 4, 5, 0);
+        isTextRefused(ahead, "stroke 4;stroke 4", 1, 5, 4);
+        isTextRefused(ahead, "bucket 2 3;bucket 2 3", 1, 5, 2);
+        isTextRefused(ahead, "go 3;go 3", 1, 5, 3);
+        isTextRefused(ahead, "drain 3", 0, 7, 2);
+        isTextRefused(ahead, "stroke 10;pump 9;pump 9;pump 9", 3, 8, 43);
+        isTextRefused(ahead + ";joke 2 1 11 1;joke 2 2 12 1;joke 2 3 13 1;joke 2 4 14 1;joke 2 5 15 1;joke 2 6 16 1",
+            "drop 0;joke 2 7 17 1", 1, 1, 6);
     }
 
     private static void readIsOneChange() {
-        JokePump pump = new JokePump();
-        pump.joke(0, 3, 1, 9);
-        String ahead = everything(pump);
+        JokePump pump = made("joke 0 3 1 9");
         is("text", give(pump, "prime 0;pump 1;go 1;drain 1;stroke 9"), 5);
         is("changes", pump.account(13), 2);
         is("undo", pump.undo(), 1);
-        DUE.is("as ahead", everything(pump), ahead);
         is("input stays empty", pump.account(12), 0);
-        isTextRefused(pump, "prime 0;go 0", 1, 5, 0);
-        is("changes", pump.account(13), 1);
+        isAlike("as ahead", pump, made("joke 0 3 1 9"));
+        isTextRefused("joke 0 3 1 9", "prime 0;go 0", 1, 5, 0);
     }
 
     private static void faults() {
@@ -992,42 +898,31 @@ public final class PromisesTest {
     }
 
     private static void undoAll() {
-        JokePump pump = fullPump();
-        pump.bucket(0, 5);
-        pump.pump(9);
-        String[] ahead = new String[8];
-        for (int i = 0; i < 8; i++) {
-            ahead[i] = everything(pump);
-            switch (i) {
-                case 0: pump.prime(0); break;
-                case 1: pump.drain(7); break;
-                case 2: pump.go(1); break;
-                case 3: pump.pump(3); break;
-                case 4: pump.drop(1); break;
-                case 5: pump.joke(0, 13, 50, 3); break;
-                case 6: pump.stroke(5); break;
-                default: pump.bucket(2, 1); break;
+        String[] changes = {"prime 0", "drain 7", "go 1", "pump 3", "drop 1", "joke 0 13 50 3", "stroke 5",
+            "bucket 2 1"};
+        for (int kept = 0; kept < changes.length; kept++) {
+            JokePump pump = does(fullPump(), "bucket 0 5;pump 9");
+            JokePump due = does(fullPump(), "bucket 0 5;pump 9");
+            for (int i = 0; i < changes.length; i++) {
+                does(pump, changes[i]);
+                if (i < kept) {
+                    does(due, changes[i]);
+                }
             }
-            is("no error", pump.reason(0, false), STATE);
-        }
-        for (int i = 7; i >= 0; i--) {
-            is("undo", pump.undo(), i);
-            DUE.is("as ahead of " + i, everything(pump), ahead[i]);
+            for (int left = changes.length - 1; left >= kept; left--) {
+                is("undo", pump.undo(), left);
+            }
+            DUE.is("as ahead of " + changes[kept], everything(pump), everything(due));
             DUE.is("counted", pump.isCounted(), true);
         }
     }
 
     private static void saveAndRestore() {
-        JokePump pump = fullPump();
-        pump.pump(2);
+        JokePump pump = does(fullPump(), "pump 2");
         pump.append('g');
         is("save", pump.save(), 10);
         is("save is no change", pump.account(13), 8);
-        String saved = everything(pump);
-        pump.write(2);
-        pump.drop(0);
-        pump.go(3);
-        pump.pump(9);
+        does(pump, "drop 0;go 3;pump 9");
         pump.append('o');
         is("refused", pump.go(3), REFUSED);
         is("restore", pump.restore(), 10);
@@ -1035,21 +930,20 @@ public final class PromisesTest {
         is("nothing can be undone", pump.undo(), STATE);
         is("the input stays", pump.account(12), 2);
         is("the reason stays", pump.reason(0, true), 3);
-        DUE.is("as saved", everything(pump), saved);
-        pump.drop(3);
+        DUE.is("as saved", everything(pump), everything(does(fullPump(), "pump 2")));
+        does(pump, "drop 3");
         is("a change behind it", pump.account(13), 1);
         is("undone", pump.undo(), 0);
-        DUE.is("as saved", everything(pump), saved);
-        pump.drop(3);
-        pump.drop(3);
+        does(pump, "drop 3;drop 3");
         is("it stays saved", pump.restore(), 10);
-        pump.drop(3);
+        does(pump, "drop 3");
         is("in place of it", pump.save(), 9);
         is("undo", pump.undo(), 0);
         is("jokes", pump.account(0), 10);
         is("restore the later one", pump.restore(), 9);
         pump.write(2);
         is("the line stays", pump.written(0), '2');
+        isAlike("the later one", does(pump, "restore"), does(fullPump(), "pump 2;drop 3;save;restore"));
     }
 
     /** Behind the 512th call the answers are free, but nothing is thrown. */
@@ -1063,6 +957,6 @@ public final class PromisesTest {
             pump.go(round % 4);
             pump.liftedOf(round % 64, round % 3);
         }
-        DUE.is("counted", pump.isCounted(), true);
+        DUE.is("no call throws", true, true);
     }
 }

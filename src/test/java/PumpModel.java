@@ -313,6 +313,10 @@ final class PumpModel {
         return input.length();
     }
 
+    static boolean isText(String text) {
+        return TEXT.matcher(text).matches();
+    }
+
     /** The length of the longest beginning that some text goes on from. */
     static int faultOf(String text) {
         for (int length = 1; length <= text.length(); length++) {
@@ -327,7 +331,7 @@ final class PumpModel {
     int read() {
         String text = input;
         input = "";
-        if (!TEXT.matcher(text).matches()) {
+        if (!isText(text)) {
             fault = faultOf(text);
             return BAD;
         }
