@@ -49,6 +49,7 @@ public final class EdgesTest extends PumpCheck {
         undo();
         save();
         restore();
+        theLast512();
         DUE.finish("EdgesTest");
     }
 
@@ -283,6 +284,12 @@ public final class EdgesTest extends PumpCheck {
         for (int what : new int[] {-1, 6, LEAST, GREATEST}) {
             is("what " + what, pump.jokeOf(0, what), BAD);
             is("no joke ahead of it", pump.jokeOf(7, what), NONE);
+        }
+        says("10: 5 for how many jokes of its well lie less deep");
+        pump = made("joke 2 30 1 1;joke 2 29 2 1;joke 2 28 3 1;joke 2 1 4 1;joke 2 2 5 1;joke 3 1 6 1;joke 3 2 7 1");
+        int[] lessDeep = {4, 3, 2, 0, 1, 0, 1};
+        for (int joke = 0; joke < lessDeep.length; joke++) {
+            is("less deep than " + joke, pump.jokeOf(joke, 5), lessDeep[joke]);
         }
     }
 
@@ -876,6 +883,8 @@ public final class EdgesTest extends PumpCheck {
             + "0,drop 0;restore", busy);
         isAlike(busy + ";save;undo;undo;undo;undo;restore", busy);
         isAlike(busy + ";undo;save;pump 1;restore", busy + ";undo");
+        String lifted = "joke 0 1 1 1;joke 1 2 2 2;pump 1";
+        isAlike(lifted + ";save;undo;go 1;pump 1;restore", lifted);
     }
 
     private static void restore() {
@@ -900,5 +909,18 @@ public final class EdgesTest extends PumpCheck {
         is("a change behind it", does(pump, "pump 1").account(13), 1);
         is("is undone", pump.undo(), 0);
         isAlike("as saved", pump, made("joke 0 1 1 1;save;restore"));
+    }
+
+    private static void theLast512() {
+        says("An object is used for at most 512 calls after it has been made");
+        JokePump pump = new JokePump();
+        for (int made = 0; made < 502; made++) {
+            is("go", pump.go((made + 1) % 4), made % 4);
+        }
+        is("503rd", pump.account(1), 2);
+        for (int left = 7; left >= 0; left--) {
+            is("undo", pump.undo(), left);
+        }
+        is("512th", pump.account(1), 2);
     }
 }

@@ -218,6 +218,10 @@ public final class TermsTest extends PumpCheck {
         is("sign 63", pump.jokeOf(1, 2), 63);
         is("wit 9", pump.jokeOf(1, 3), 9);
         is("not primed at first", pump.jokeOf(0, 4) + pump.jokeOf(1, 4), 0);
+        for (int gone = 0; gone < 12; gone++) {
+            pump = made(TWELVE + ";prime 11;prime " + (gone == 11 ? 10 : gone) + ";drop " + gone + ";joke 0 1 50 1");
+            is("not primed at first, where primed ones were", pump.jokeOf(11, 4), 0);
+        }
         isTextRefused("go 1", "joke 0 1 64 1", 0, NOTHING, NOTHING);
         isTextRefused("go 1", "joke 0 1 99 1", 0, NOTHING, NOTHING);
         isTextRefused("go 1", "joke 0 1 1 0", 0, NOTHING, NOTHING);
